@@ -1,4 +1,3 @@
-import java.lang.reflect.InvocationTargetException;
 import java.lang.reflect.Method;
 import java.lang.reflect.Modifier;
 import java.util.ArrayList;
@@ -7,20 +6,28 @@ import java.util.Comparator;
 import java.util.List;
 import java.util.Random;
 
-/** Calls by a fixed seed, and after each one what must hold whatever was called. */
+/** Random calls by fixed seeds, and what must hold where they lead, whatever was called. */
 public final class RandomCallsTest {
-    private static final int OBJECTS = 300;
-    private static final int CALLS = 512;
+    private static final int OBJECTS = 120;
+    private static final int MOST_CALLS_MADE = 350;
+    private static final int REFUSALS_TRIED = 3;
+    private static final int TOPICS = 3;
     private static final int TPS = 12;
+    private static final int SESSIONS = 6;
+    private static final String GONE = "NoSuchElementException";
 
+    private final long seed;
     private final Random random;
     private final List<Method> methods = new ArrayList<>();
-    private final int[][] sizes = new int[3][];
-    private final int[][] nextNumbers = new int[6][TPS];
-    private LogBroker broker;
+    private final LogBroker broker = new LogBroker();
+    private final List<Call> way = new ArrayList<>();
+    private final int[][] topics = new int[TOPICS][];
+    private final int[][] nextNumbers = new int[SESSIONS][TPS];
+    private State state;
     private int wrong;
 
     private RandomCallsTest(long seed) {
+        this.seed = seed;
         random = new Random(seed);
         for (Method method : LogBroker.class.getDeclaredMethods()) {
             if (Modifier.isPublic(method.getModifiers())) {
@@ -31,11 +38,11 @@ public final class RandomCallsTest {
         methods.sort(Comparator.comparing(Method::getName));
     }
 
-    public static void main(String[] args) throws IllegalAccessException {
+    public static void main(String[] args) {
         int wrong = 0;
         for (int seed = 0; seed < OBJECTS && wrong == 0; seed++) {
             RandomCallsTest test = new RandomCallsTest(seed);
-            test.play(seed);
+            test.play();
             wrong += test.wrong;
         }
         if (wrong != 0) {
@@ -43,182 +50,162 @@ public final class RandomCallsTest {
         }
     }
 
-    private void play(long seed) throws IllegalAccessException {
-        broker = new LogBroker();
-        for (int t = 0; t < 3; t++) {
+    private void play() {
+        for (int t = 0; t < TOPICS; t++) {
             if (random.nextInt(4) > 0) {
-                sizes[t] = new int[] {1 + random.nextInt(3), 1 + random.nextInt(4), 1 + random.nextInt(5)};
-                broker.topic(t, sizes[t][0], sizes[t][1], sizes[t][2], random.nextInt(3) > 0);
+                make(Call.flagged("topic", random.nextInt(3) > 0,
+                    t, 1 + random.nextInt(3), 1 + random.nextInt(4), 1 + random.nextInt(5)));
             }
         }
-        int[] before = snapshot();
-        for (int call = 0; call < CALLS && wrong == 0; call++) {
-            Method method = methods.get(random.nextInt(3) > 0 ? indexOfProduce() : random.nextInt(methods.size()));
-            Object[] values = arguments(method);
-            boolean refused = callAndTellIfRefused(method, values);
-            int[] after = snapshot();
-            String where = "seed " + seed + ", call " + call + ", " + method.getName() + Arrays.toString(values);
-            check(!refused || Arrays.equals(before, after), where + " threw and changed something");
-            checkThatNumbersFit(where);
-            before = after;
+        int length = random.nextInt(MOST_CALLS_MADE);
+        while (way.size() < length) {
+            make(randomCall());
+        }
+        state = new State(way);
+        checkThatNumbersFit();
+        for (int i = 0; i < REFUSALS_TRIED; i++) {
+            checkThatARefusalChangesNothing(randomCall());
         }
     }
 
-    private int indexOfProduce() {
-        for (int i = 0; i < methods.size(); i++) {
-            if (methods.get(i).getName().equals("produce")) {
-                return i;
-            }
+    private void make(Call call) {
+        String answer = call.answerOf(broker);
+        way.add(call);
+        if (isRefusal(answer)) {
+            check(declares(call.name, answer), call + " threw " + answer);
+        } else {
+            noteWhatCameOf(call);
         }
-        throw new AssertionError("no produce");
     }
 
-    private Object[] arguments(Method method) {
-        Object[] values = new Object[method.getParameterCount()];
+    private static boolean isRefusal(String answer) {
+        return answer.endsWith("Exception");
+    }
+
+    private boolean declares(String name, String exception) {
+        for (Method method : methods) {
+            if (method.getName().equals(name)) {
+                return Arrays.stream(method.getExceptionTypes()).anyMatch(e -> e.getSimpleName().equals(exception));
+            }
+        }
+        return false;
+    }
+
+    private void noteWhatCameOf(Call call) {
+        int[] n = call.numbers;
+        if (call.name.equals("topic")) {
+            topics[n[0]] = new int[] {n[1], n[2]};
+        }
+        if (call.name.equals("open")) {
+            Arrays.fill(nextNumbers[n[0]], 0);
+        }
+        if (call.name.equals("produce")) {
+            nextNumbers[n[0]][n[1]] = Math.max(nextNumbers[n[0]][n[1]], n[2] + 1);
+        }
+    }
+
+    private Call randomCall() {
         boolean good = random.nextInt(20) > 0;
-        for (int i = 0; i < values.length; i++) {
-            if (method.getParameterTypes()[i] == boolean.class) {
-                values[i] = random.nextBoolean();
-            } else {
-                values[i] = good ? random.nextInt(6) : random.nextInt(70) - 5;
-            }
+        if (good && random.nextInt(3) > 0) {
+            return likelyProduce();
         }
-        if (method.getName().equals("produce") && good) {
-            int s = random.nextInt(6);
-            int tp = random.nextInt(TPS);
-            values[0] = s;
-            values[1] = tp;
-            values[2] = Math.max(0, nextNumbers[s][tp] - (random.nextInt(5) == 0 ? random.nextInt(5) : 0));
+        Method method = methods.get(random.nextInt(methods.size()));
+        Class<?>[] types = method.getParameterTypes();
+        boolean flagged = types[types.length - 1] == boolean.class;
+        int[] numbers = new int[types.length - (flagged ? 1 : 0)];
+        for (int i = 0; i < numbers.length; i++) {
+            numbers[i] = good ? random.nextInt(6) : random.nextInt(70) - 5;
         }
-        return values;
+        return Call.flagged(method.getName(), flagged && random.nextBoolean(), numbers);
     }
 
-    private boolean callAndTellIfRefused(Method method, Object[] values) throws IllegalAccessException {
-        try {
-            method.invoke(broker, values);
-            if (method.getName().equals("produce")) {
-                int s = (Integer) values[0];
-                int tp = (Integer) values[1];
-                nextNumbers[s][tp] = Math.max(nextNumbers[s][tp], (Integer) values[2] + 1);
-            }
-            if (method.getName().equals("open")) {
-                Arrays.fill(nextNumbers[(Integer) values[0]], 0);
-            }
-            if (method.getName().equals("topic")) {
-                sizes[(Integer) values[0]] = new int[] {(Integer) values[1], (Integer) values[2], (Integer) values[3]};
-            }
-            return false;
-        } catch (InvocationTargetException e) {
-            Class<?> thrown = e.getCause().getClass();
-            check(Arrays.asList(method.getExceptionTypes()).contains(thrown), method.getName() + " threw " + thrown);
-            return true;
+    private Call likelyProduce() {
+        int s = random.nextInt(SESSIONS);
+        int tp = random.nextInt(TPS);
+        int back = random.nextInt(5) == 0 ? random.nextInt(5) : 0;
+        int number = Math.max(0, nextNumbers[s][tp] - back);
+        return Call.of("produce", s, tp, number, random.nextInt(9) - 1, random.nextInt());
+    }
+
+    private void checkThatARefusalChangesNothing(Call call) {
+        if (isRefusal(new State(way).answersTo(List.of(call)).get(0))) {
+            List<String> differences = Twins.differencesBy(call, way);
+            check(differences.isEmpty(), call + " is refused, but " + differences);
         }
     }
 
-    private boolean isThere(int tp) {
-        return sizes[tp / 4] != null && tp % 4 < sizes[tp / 4][0];
-    }
-
-    /** All that can be asked without changing anything. */
-    private int[] snapshot() {
-        List<Integer> seen = new ArrayList<>();
-        for (int what = 0; what < 8; what++) {
-            seen.add(broker.count(what));
-        }
-        for (int tp = 0; tp < TPS; tp++) {
-            if (isThere(tp)) {
-                for (int what = 0; what < 9; what++) {
-                    seen.add(broker.log(tp, what));
-                }
-                for (int offset = broker.log(tp, 0); offset < broker.log(tp, 1); offset++) {
-                    for (int what = 0; what < 5; what++) {
-                        seen.add(toldOr(tp, offset, what, -9));
-                    }
-                }
-                seen.add(ownerOr(0, tp, -9));
-                seen.add(ownerOr(1, tp, -9));
-            }
-        }
-        return seen.stream().mapToInt(Integer::intValue).toArray();
-    }
-
-    private int toldOr(int tp, int offset, int what, int gone) {
-        try {
-            return broker.told(tp, offset, what);
-        } catch (java.util.NoSuchElementException e) {
-            return gone;
-        }
-    }
-
-    private int ownerOr(int g, int tp, int nobody) {
-        try {
-            return broker.owner(g, tp);
-        } catch (java.util.NoSuchElementException e) {
-            return nobody;
-        }
-    }
-
-    private int fetchOr(int tp, int offset, boolean committed, int none) {
-        try {
-            return broker.fetch(tp, offset, committed);
-        } catch (java.util.NoSuchElementException e) {
-            return none;
-        }
-    }
-
-    private void checkThatNumbersFit(String where) {
+    private void checkThatNumbersFit() {
         int ends = 0;
         int present = 0;
         for (int tp = 0; tp < TPS; tp++) {
             if (isThere(tp)) {
-                checkLog(tp, where);
-                ends += broker.log(tp, 1);
-                present += broker.log(tp, 3);
+                checkLog(tp);
+                ends += log(tp, 1);
+                present += log(tp, 3);
             }
         }
-        check(broker.count(0) == ends, where + ": all that was written has an offset");
-        check(broker.count(0) == present + broker.count(3) + broker.count(4),
-            where + ": what was written is there or gone one way");
+        check(count(0) == ends, "all that was written has an offset");
+        check(count(0) == present + count(3) + count(4), "what was written is there or gone one way");
     }
 
-    private void checkLog(int tp, String where) {
-        int start = broker.log(tp, 0);
-        int end = broker.log(tp, 1);
+    private boolean isThere(int tp) {
+        return topics[tp / 4] != null && tp % 4 < topics[tp / 4][0];
+    }
+
+    private void checkLog(int tp) {
+        int start = log(tp, 0);
+        int end = log(tp, 1);
         int stable = end;
         int present = 0;
         for (int offset = end - 1; offset >= start; offset--) {
-            int state = toldOr(tp, offset, 4, -9);
-            present += state == -9 ? 0 : 1;
-            stable = state == 2 ? offset : stable;
+            String decided = told(tp, offset, 4);
+            present += decided.equals(GONE) ? 0 : 1;
+            stable = decided.equals("2") ? offset : stable;
         }
-        int size = sizes[tp / 4][1];
-        check(start % size == 0 && start <= end && end <= 60, where + ": start and end of " + tp);
-        check(broker.log(tp, 2) == stable, where + ": stable offset of " + tp);
-        check(broker.log(tp, 3) == present, where + ": records there in " + tp);
-        check(broker.log(tp, 4) == end / size - start / size, where + ": closed segments of " + tp);
+        int size = topics[tp / 4][1];
+        check(start % size == 0 && start <= end && end <= 60, "start and end of " + tp);
+        check(log(tp, 2) == stable, "stable offset of " + tp);
+        check(log(tp, 3) == present, "records there in " + tp);
+        check(log(tp, 4) == end / size - start / size, "closed segments of " + tp);
         for (int what = 5; what < 9; what++) {
-            check(broker.log(tp, what) >= 0 && broker.log(tp, what) <= end, where + ": positions of " + tp);
+            check(log(tp, what) >= 0 && log(tp, what) <= end, "positions of " + tp);
         }
-        checkReaders(tp, start, end, stable, where);
+        checkReaders(tp, start, end, stable);
     }
 
-    private void checkReaders(int tp, int start, int end, int stable, String where) {
-        int anyData = -9;
-        int committedData = -9;
+    private void checkReaders(int tp, int start, int end, int stable) {
+        String anyData = GONE;
+        String committedData = GONE;
         for (int offset = end; offset >= start; offset--) {
-            if (offset < end && toldOr(tp, offset, 2, -9) == 0) {
-                anyData = offset;
-                committedData = offset < stable && broker.told(tp, offset, 4) == 0 ? offset : committedData;
+            if (told(tp, offset, 2).equals("0")) {
+                anyData = Integer.toString(offset);
+                committedData = offset < stable && told(tp, offset, 4).equals("0") ? anyData : committedData;
             }
-            check(fetchOr(tp, offset, false, -9) == anyData, where + ": fetch for all from " + offset + " of " + tp);
-            check(fetchOr(tp, offset, true, -9) == committedData, where + ": fetch from " + offset + " of " + tp);
+            check(fetch(tp, offset, false).equals(anyData), "fetch for all from " + offset + " of " + tp);
+            check(fetch(tp, offset, true).equals(committedData), "fetch from " + offset + " of " + tp);
         }
+    }
+
+    private int count(int what) {
+        return state.askNumber(Call.of("count", what));
+    }
+
+    private int log(int tp, int what) {
+        return state.askNumber(Call.of("log", tp, what));
+    }
+
+    private String told(int tp, int offset, int what) {
+        return state.ask(Call.of("told", tp, offset, what));
+    }
+
+    private String fetch(int tp, int offset, boolean committed) {
+        return state.ask(Call.flagged("fetch", committed, tp, offset));
     }
 
     private void check(boolean holds, String what) {
         if (!holds) {
             wrong++;
-            System.out.println("does not hold: " + what);
+            System.out.println("seed " + seed + " after " + way.size() + " calls, does not hold: " + what);
         }
     }
 }
